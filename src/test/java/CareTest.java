@@ -37,7 +37,7 @@ public final class CareTest {
         WeftHouse house = Scenes.dyedHouse();
         String[] rows = {"RBRBRRBR", "RBRBRBBB", "RRRBRBRR", "RBBBBRBR", "RBRRBRRB"};
         int piece = Scenes.piece(house, rows);
-        boolean[] due = {false, false, false, false, true, true, true, false};
+        boolean[] due = new boolean[8];
         int slits = 0;
         for (int column = 1; column < 8; column++) {
             due[column] = longestUnlike(rows, column) >= 3;
