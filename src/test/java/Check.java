@@ -16,6 +16,20 @@ final class Check {
 
     private int checks = 0;
     private int wrong = 0;
+    private String sentence = "";
+
+    /** Runs what tests a sentence of the document; if it breaks off, the other sentences go on. */
+    void sentence(String words, Runnable test) {
+        sentence = "\"" + words + "\": ";
+        int before = checks;
+        try {
+            test.run();
+        } catch (RuntimeException e) {
+            report("the test broke off: " + e);
+        }
+        due("how many things are checked", checks > before, true);
+        sentence = "";
+    }
 
     void due(String what, long got, long want) {
         checks++;
@@ -33,6 +47,16 @@ final class Check {
         if (!got.equals(want)) {
             report(what + " answered " + got + ", due is " + want);
         }
+    }
+
+    /** The call must answer this on the house as it is made. */
+    void takes(String what, Scene scene, long want, Call call) {
+        due(what, answer(call, scene.make()), Long.toString(want));
+    }
+
+    /** The call must throw just this exception; what it changes is not looked at. */
+    void throwsOf(String what, WeftHouse house, Class<? extends RuntimeException> due, Call call) {
+        due(what, answer(call, house), due.getSimpleName());
     }
 
     /** The call must throw just this exception, and the house must answer as if it had not been. */
@@ -61,7 +85,7 @@ final class Check {
 
     void report(String what) {
         wrong++;
-        System.out.println("  wrong: " + what);
+        System.out.println("  wrong: " + sentence + what);
     }
 
     void finish() {

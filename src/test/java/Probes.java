@@ -47,7 +47,7 @@ final class Probes {
         }
     }
 
-    /** Which letters the word has shows only in a row; its length is found by asking each cartoon. */
+    /** Which letters the word has shows only in a row; how many, by asking a cartoon of each width. */
     private static void askWord(WeftHouse house, StringBuilder answers) {
         for (int width = 2; width <= 12; width++) {
             int asked = width;
@@ -56,16 +56,24 @@ final class Probes {
         for (int cartoon = 0; cartoon < CARTOONS; cartoon++) {
             int asked = cartoon;
             note(answers, house, x -> x.row(asked));
-            note(answers, house, x -> x.loom(asked, 1, false));
-        }
-        for (int piece = 0; piece < PIECES; piece++) {
-            for (int column = 0; column < 12; column++) {
-                int asked = piece;
-                int at = column;
-                note(answers, house, x -> x.cell(asked, 0, at, 0));
-            }
+            askTopmostRow(house, begun(house, cartoon, answers), answers);
         }
         note(answers, house, x -> x.empty());
+    }
+
+    private static void askTopmostRow(WeftHouse house, int piece, StringBuilder answers) {
+        int columns = piece == WeftHouse.NONE ? 0 : house.pieceIs(piece, 0);
+        for (int column = 0; column < columns; column++) {
+            int at = column;
+            note(answers, house, x -> x.cell(piece, x.pieceIs(piece, 1) - 1, at, 0));
+        }
+    }
+
+    /** The number of a piece newly begun from a cartoon, or NONE if there can be none. */
+    private static int begun(WeftHouse house, int cartoon, StringBuilder answers) {
+        String number = Check.answer(x -> x.loom(cartoon, 1, false), house);
+        answers.append(number).append(' ');
+        return number.length() <= 2 ? Integer.parseInt(number) : WeftHouse.NONE;
     }
 
     private static void askNextNumbers(WeftHouse house, StringBuilder answers) {
@@ -81,8 +89,9 @@ final class Probes {
         }
     }
 
+    /** Its colours show in a new piece, or, when there can be none, in the likeness of the others. */
     private static void askCartoon(WeftHouse house, int cartoon, StringBuilder answers) {
-        note(answers, house, x -> x.loom(cartoon, 1, false));
+        askCells(house, begun(house, cartoon, answers), 0, answers);
         for (int piece = 0; piece < PIECES; piece++) {
             int asked = piece;
             note(answers, house, x -> x.likeness(asked, cartoon));
@@ -91,9 +100,20 @@ final class Probes {
         }
     }
 
+    private static boolean isThere(WeftHouse house, int piece, StringBuilder answers) {
+        String columns = Check.answer(x -> x.pieceIs(piece, 0), house);
+        answers.append(columns).append(' ');
+        return columns.length() <= 2;
+    }
+
     private static void askCells(WeftHouse house, int piece, int what, StringBuilder answers) {
-        for (int row = 0; row < 10; row++) {
-            for (int column = 0; column < 24; column++) {
+        if (!isThere(house, piece, answers)) {
+            return;
+        }
+        int rows = house.pieceIs(piece, 1);
+        int columns = house.pieceIs(piece, 0);
+        for (int row = 0; row < rows; row++) {
+            for (int column = 0; column < columns; column++) {
                 int up = row;
                 int at = column;
                 note(answers, house, x -> x.cell(piece, up, at, what));
@@ -102,6 +122,9 @@ final class Probes {
     }
 
     private static void askPiece(WeftHouse house, int piece, StringBuilder answers) {
+        if (!isThere(house, piece, answers)) {
+            return;
+        }
         for (int what = 0; what < 6; what++) {
             int asked = what;
             note(answers, house, x -> x.pieceIs(piece, asked));
@@ -121,5 +144,7 @@ final class Probes {
                 note(answers, house, x -> x.weave(piece, asked));
             }
         }
+        note(answers, house, x -> x.light(piece, 100));
+        note(answers, house, x -> x.wash(piece));
     }
 }

@@ -1,3 +1,5 @@
+import java.util.Arrays;
+
 /** What many tests do with a house first. */
 final class Scenes {
     private Scenes() {
@@ -17,6 +19,27 @@ final class Scenes {
             house.row(cartoon);
         }
         return cartoon;
+    }
+
+    /** Draws a cartoon whose rows are all the same; returns its number. */
+    static int drawAlike(WeftHouse house, String row, int rows) {
+        String[] alike = new String[rows];
+        Arrays.fill(alike, row);
+        return draw(house, alike);
+    }
+
+    /** A house with a dyed lot of each colour and one cartoon, 0. */
+    static WeftHouse drawnHouse(String... rows) {
+        WeftHouse house = dyedHouse();
+        draw(house, rows);
+        return house;
+    }
+
+    /** A house with a dyed lot of each colour, one cartoon, 0, and one piece of it, 0, that is done. */
+    static WeftHouse wovenHouse(String... rows) {
+        WeftHouse house = drawnHouse(rows);
+        weaveWhole(house, 0, false);
+        return house;
     }
 
     /** Begins a piece with one weaver and weaves it; returns its number. */
@@ -61,6 +84,11 @@ final class Scenes {
             read.append(value == WeftHouse.NONE ? '-' : signs.charAt(value));
         }
         return read.toString();
+    }
+
+    /** Numbers that an argument cannot have: just below its least, just above its greatest, and far off. */
+    static int[] outside(int least, int greatest) {
+        return new int[] {least - 1, greatest + 1, Integer.MIN_VALUE, Integer.MAX_VALUE};
     }
 
     /** The shades of a row of a piece, with a blank between them. */
