@@ -319,8 +319,11 @@ public final class CallsOfFragmentsTest {
                 return x.likeness(4, 2);
             });
             WeftHouse house = pieces();
+            CHECK.due("a row too many", house.likeness(2, Scenes.draw(house, "RB", "RB")), WeftHouse.NONE);
             CHECK.due("none of them", house.likeness(2, Scenes.draw(house, "YG")), 0);
-            CHECK.due("one of two", house.likeness(2, Scenes.draw(house, "RR")), 1);
+            WeftHouse other = pieces();
+            CHECK.due("one of two", other.likeness(2, Scenes.draw(other, "RR")), 1);
+            CHECK.due("rows too few", other.likeness(0, Scenes.draw(other, "RBBR")), WeftHouse.NONE);
         });
         CHECK.sentence("21: Throws IndexOutOfBoundsException as told, of both", () -> {
             refusesPieces(x -> x.likeness(0, 0), piece -> x -> x.likeness(piece, 0));

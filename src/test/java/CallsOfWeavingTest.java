@@ -107,23 +107,32 @@ public final class CallsOfWeavingTest {
         return house;
     }
 
+    private static WeftHouse drawnCartoons(int many) {
+        WeftHouse house = new WeftHouse();
+        for (int number = 0; number < many; number++) {
+            Scenes.draw(house, "XRX");
+        }
+        Scenes.typeWord(house, "RBY");
+        return house;
+    }
+
     private static void promise4() {
         CHECK.sentence("4: Returns its number.", () -> {
             for (int many = 0; many < 5; many++) {
                 int made = many;
-                CHECK.takes("behind " + many, () -> cartoons(made), many, x -> x.cartoon(12));
+                CHECK.takes("behind " + many, () -> drawnCartoons(made), many, x -> x.cartoon(12));
             }
         });
         CHECK.sentence("4: Throws IllegalArgumentException as told", () -> {
             for (int wrong : Scenes.outside(2, 12)) {
-                CHECK.refuses("the first one, " + wrong, () -> cartoons(0), Check.ARGUMENT, x -> x.cartoon(wrong));
-                CHECK.refuses("the last one, " + wrong, () -> cartoons(4), Check.ARGUMENT, x -> x.cartoon(wrong));
-                CHECK.refuses("one too many, " + wrong, () -> cartoons(5), Check.ARGUMENT, x -> x.cartoon(wrong));
+                CHECK.refuses("the first one, " + wrong, () -> drawnCartoons(0), Check.ARGUMENT, x -> x.cartoon(wrong));
+                CHECK.refuses("the last one, " + wrong, () -> drawnCartoons(4), Check.ARGUMENT, x -> x.cartoon(wrong));
+                CHECK.refuses("one too many, " + wrong, () -> drawnCartoons(5), Check.ARGUMENT, x -> x.cartoon(wrong));
             }
         });
         CHECK.sentence("4: Throws IllegalStateException if there are 5", () -> {
-            CHECK.refuses("narrow", () -> cartoons(5), Check.STATE, x -> x.cartoon(2));
-            CHECK.refuses("wide", () -> cartoons(5), Check.STATE, x -> x.cartoon(12));
+            CHECK.refuses("narrow", () -> drawnCartoons(5), Check.STATE, x -> x.cartoon(2));
+            CHECK.refuses("wide", () -> drawnCartoons(5), Check.STATE, x -> x.cartoon(12));
         });
     }
 
@@ -209,10 +218,14 @@ public final class CallsOfWeavingTest {
         });
     }
 
+    /** With a piece, if it can be woven, by which the lots' fades show. */
     private static WeftHouse lots(int many) {
         WeftHouse house = new WeftHouse();
         for (int number = 0; number < many; number++) {
             house.dye(number % 6, 50 + number, number % 10, number % 2 == 1);
+        }
+        if (many > 1) {
+            Scenes.piece(house, "RB");
         }
         return house;
     }

@@ -88,13 +88,15 @@ public final class FaceTest {
     }
 
     private static void namesOfOthers(Class<?> face, List<String> names) {
-        for (Method method : face.getDeclaredMethods()) {
-            if (Modifier.isPrivate(method.getModifiers())) {
-                CHECK.due(method + " bears a public name", names.contains(method.getName()), false);
-            }
-        }
+        privateNames(face, names);
         for (Class<?> inside : face.getDeclaredClasses()) {
-            for (Method method : inside.getDeclaredMethods()) {
+            privateNames(inside, names);
+        }
+    }
+
+    private static void privateNames(Class<?> where, List<String> names) {
+        for (Method method : where.getDeclaredMethods()) {
+            if (Modifier.isPrivate(method.getModifiers())) {
                 CHECK.due(method + " bears a public name", names.contains(method.getName()), false);
             }
         }

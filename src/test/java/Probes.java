@@ -121,6 +121,7 @@ final class Probes {
         }
     }
 
+    /** What is sewn in a piece shows when it is done, and how its lots fade and bleed likewise. */
     private static void askPiece(WeftHouse house, int piece, StringBuilder answers) {
         if (!isThere(house, piece, answers)) {
             return;
@@ -134,15 +135,16 @@ final class Probes {
             int asked = other;
             note(answers, house, x -> x.match(piece, asked));
         }
-        for (int column = 1; column < 24; column++) {
-            int at = column;
-            note(answers, house, x -> x.sew(piece, at) ? 1 : 0);
-        }
         for (int round = 0; round < 10; round++) {
             for (int weaver = 0; weaver < 4; weaver++) {
                 int asked = weaver;
                 note(answers, house, x -> x.weave(piece, asked));
             }
+        }
+        note(answers, house, x -> x.pieceIs(piece, 4));
+        for (int column = 1; column < 24; column++) {
+            int at = column;
+            note(answers, house, x -> x.sew(piece, at) ? 1 : 0);
         }
         note(answers, house, x -> x.light(piece, 100));
         note(answers, house, x -> x.wash(piece));

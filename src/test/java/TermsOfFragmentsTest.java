@@ -623,18 +623,18 @@ public final class TermsOfFragmentsTest {
         }
     }
 
-    /** Piece 0 is done and sewn, piece 1 is begun by two, piece 2 is no more, piece 3 is of three rows. */
+    /** Piece 0 is done and sewn, piece 1 is begun by two, piece 2 is no more, piece 3 is of two rows. */
     private static WeftHouse busyHouse() {
         WeftHouse house = new WeftHouse();
-        house.dye(0, 40, 3, true);
-        house.dye(1, 12, 7, false);
-        Scenes.weaveWhole(house, Scenes.draw(house, "RBX", "XBR"), false);
-        house.sew(0, 1);
+        house.dye(0, 60, 3, true);
+        house.dye(1, 30, 7, false);
+        Scenes.weaveWhole(house, Scenes.draw(house, "RBX", "XBR", "RBX"), false);
+        house.sew(0, 2);
         house.loom(0, 2, true);
         house.weave(1, 1);
         Scenes.weaveWhole(house, 0, true);
         house.join(0, 2);
-        Scenes.piece(house, "RB", "RB", "RB");
+        Scenes.piece(house, "RB", "RB");
         house.light(3, 77);
         Scenes.draw(house, "ZZ");
         Scenes.typeWord(house, "RXB");
@@ -660,7 +660,7 @@ public final class TermsOfFragmentsTest {
         calls.add(x -> x.weave(1, 2));
         calls.add(x -> x.pieceIs(0, 6));
         calls.add(x -> x.cell(0, 0, 0, 3));
-        calls.add(x -> x.cell(0, 2, 0, 0));
+        calls.add(x -> x.cell(0, 3, 0, 0));
         calls.add(x -> x.sew(0, 0) ? 1 : 0);
         calls.add(x -> x.sew(1, 1) ? 1 : 0);
         calls.add(x -> x.light(0, 10000));
